@@ -3,7 +3,8 @@ public final class TalkStrainer {
     public static final int BAD = -1, NOT = -2, FULL = -3, STATE = -5, VOID = -2000000000;
 
     private static final int NOTHING_THERE = -11, OTHER_KIND = -12, NO_PLACE = -13, SIZE_BELOW_0 = -14;
-    private static final long REFUSED = Long.MIN_VALUE;
+    // the least long, with which the calls that answer a long refuse
+    private static final long REFUSED = -9223372036854775808L;
     private static final int SHELVES = 6, SAYING = 12, FINES = 10;
 
     private final Stock stock;
@@ -911,10 +912,6 @@ public final class TalkStrainer {
             names[3] = fine;
             names[4] = place;
             names[5] = left;
-            return workOut();
-        }
-
-        private int workOut() {
             int top = 0;
             int next = 0;
             for (int turn = 0; turn < STEPS && next >= 0 && next < stepCount && next < STEPS; turn++) {
@@ -1472,7 +1469,7 @@ public final class TalkStrainer {
         }
 
         private int winningFrom(int set, int playable) {
-            int open = passing[Integer.bitCount(set) % passing.length] & ~set;
+            int open = passing[Math.min(Integer.bitCount(set), PLAYED)] & ~set;
             for (int word = 0; word < playable; word++) {
                 int next = set | 1 << word;
                 if ((open >> word & 1) != 0 && next >= 0 && next < wins.length && !wins[next]) {
