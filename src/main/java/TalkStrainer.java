@@ -386,7 +386,7 @@ public final class TalkStrainer {
     }
 
     public int led(int what) {
-        return what < 0 || what >= Deeds.LED ? BAD : deeds.ledOf(what);
+        return deeds.ledOf(what);
     }
 
     public int image() {
@@ -1508,8 +1508,7 @@ public final class TalkStrainer {
 
     /** What was said and rinsed in deed, and the image of it. */
     private static final class Deeds {
-        static final int LED = 6;
-        private static final int MESHES = 5;
+        private static final int MESHES = 5, LED = 6;
         private static final int SAYINGS = 0, CAME = 1, LEFT = 2, HURTS = 3, RINSINGS = 4, RINSED = 5;
 
         private final int[] lying;

@@ -314,7 +314,7 @@ public final class ModelTest {
             b.ask("person", r.nextInt(10));
         }
         for (int n = 0; n < 60; n++) {
-            for (int times = r.nextInt(r.nextInt(4) == 0 ? 30 : 5); times > 0 && b.calls < 440; times--) {
+            for (int times = r.nextInt(r.nextInt(4) == 0 ? 30 : 5); times > 0 && b.calls < 280; times--) {
                 int what = r.nextInt(8);
                 b.ask("mend", what == 7 ? 0 : r.nextInt(3), what, r.nextInt(3));
             }
@@ -322,7 +322,7 @@ public final class ModelTest {
                 b.ask(r.nextInt(3) == 0 ? "redo" : "undo");
                 b.ask("count", 4);
             }
-            if (b.calls > 440) {
+            if (b.calls > 280) {
                 break;
             }
         }
@@ -333,6 +333,12 @@ public final class ModelTest {
         }
         for (int n = 0; n < 42; n++) {
             b.ask("undo");
+            b.ask("of", r.nextInt(3), r.nextInt(7));
+        }
+        for (int what = 0; what <= 7; what++) {
+            for (int number = 0; number < 3; number++) {
+                b.ask("of", number, what);
+            }
         }
         return b.calls;
     }

@@ -1151,19 +1151,19 @@ public final class PromisesTest {
         TalkStrainer y = new TalkStrainer();
         y.word(0, 0);
         for (int n = 1; n <= 50; n++) {
-            y.mend(0, 0, n % 10);
+            y.mend(0, 0, n % 7);
             due(y.count(4), Math.min(n, 40));
         }
         for (int n = 39; n >= 0; n--) {
             due(y.undo(), n);
-            due(y.of(0, 0), n % 10);
+            due(y.of(0, 0), (10 + n) % 7);
         }
         due(y.undo(), STATE);
-        due(y.of(0, 0), 0);
+        due(y.of(0, 0), 3);
         promise = 34;
         for (int n = 39; n >= 0; n--) {
             due(y.redo(), n);
-            due(y.of(0, 0), (50 - n) % 10);
+            due(y.of(0, 0), (50 - n) % 7);
         }
         due(y.redo(), STATE);
         due(y.mend(0, 0, 11), BAD);
