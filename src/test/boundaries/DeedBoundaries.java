@@ -269,6 +269,7 @@ final class DeedBoundaries extends Sentences {
         due(x.of(3, 8), 2);
         due(x.of(3, 9), 6);
         due(x.of(0, 8), 2);
+        due(x.of(0, 9), 6);
         due(x.count(1), 5);
         due(x.rinse(4), 0);
         TalkStrainer z = new TalkStrainer();
@@ -350,6 +351,55 @@ final class DeedBoundaries extends Sentences {
             due(x.redo(), STATE);
             due(x.of(0, 0), many % 10);
             due(x.count(4), kept);
+        }
+    }
+
+    /** Mends by turns a MESH, a WORD, one of the PEOPLE, and tells the number, what of it, and what it becomes: what it was. */
+    private static int changed(TalkStrainer x, int n, int[] then) {
+        int what = n % 3 == 0 ? 5 : n % 3 == 1 ? 0 : 6;
+        int number = what == 5 ? n / 3 % 5 : what == 6 ? n / 3 % 6 : n / 3 % 12;
+        then[0] = number;
+        then[1] = what;
+        then[2] = (n / 36 + 1) % 10;
+        return x.mend(number, what, then[2]);
+    }
+
+    static void eachOfFortyIsUndoneAndDoneAgain() {
+        sentence(33, "can be UNDONE, the latest first, and DONE AGAIN");
+        for (int many = 39; many <= 44; many++) {
+            TalkStrainer x = sizes(12, "");
+            for (int n = 0; n < 6; n++) {
+                x.mesh(0);
+                x.person(0);
+            }
+            int[][] then = new int[many][3];
+            int[] was = new int[many];
+            int changes = 0;
+            for (int n = 0; changes < many; n++) {
+                int[] one = new int[3];
+                int before = changed(x, n, one);
+                if (before != one[2]) {
+                    then[changes] = one;
+                    was[changes] = before;
+                    changes++;
+                }
+            }
+            int kept = Math.min(many, 40);
+            due(x.count(4), kept);
+            for (int n = 1; n <= kept; n++) {
+                int[] one = then[many - n];
+                due(x.of(one[0], one[1]), one[2]);
+                due(x.undo(), kept - n);
+                due(x.of(one[0], one[1]), was[many - n]);
+            }
+            due(x.undo(), STATE);
+            for (int n = kept; n >= 1; n--) {
+                int[] one = then[many - n];
+                due(x.of(one[0], one[1]), was[many - n]);
+                due(x.redo(), n - 1);
+                due(x.of(one[0], one[1]), one[2]);
+            }
+            due(x.redo(), STATE);
         }
     }
 

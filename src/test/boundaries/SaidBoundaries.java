@@ -15,6 +15,24 @@ final class SaidBoundaries extends Sentences {
         due(x.said(1, 0), 2);
         due(x.said(10, 0), 0);
         due(x.said(1, -1), 0);
+        // on SHELF n a ROW of n + 1 words
+        for (int shelf = 0; shelf <= 5; shelf++) {
+            x.row(shelf, 0, shelf + 1);
+        }
+        for (int many = 1; many <= 5; many += 4) {
+            tell(x, "p<" + many);
+            for (int left = 0; left <= 5; left++) {
+                for (int came = 0; came <= 5; came++) {
+                    due(x.said(10 * came + left, 0), came + 1 == many ? 1 : 0);
+                }
+            }
+            tell(x, "l>" + (many - 1));
+            for (int left = 0; left <= 5; left++) {
+                for (int came = 0; came <= 5; came++) {
+                    due(x.said(10 * came + left, 0), left + 1 == many ? 1 : 0);
+                }
+            }
+        }
     }
 
     static void saidTwelveAtMost() {
@@ -75,6 +93,17 @@ final class SaidBoundaries extends Sentences {
         sentence(20, "BAD, -11, -12; NOT.");
         SayingBoundaries.twoShelves(BAD, NOTHING_THERE, OTHER_KIND, (x, cl) -> x.saidAt(cl, 0, 0));
         SayingBoundaries.meshOrNone(BAD, (x, mesh) -> x.saidAt(0, mesh, 0));
+        TalkStrainer x = sizes(4, "p<3");
+        for (int shelf = 0; shelf <= 5; shelf++) {
+            x.row(shelf, 0, shelf + 1);
+        }
+        for (int left = 0; left <= 5; left++) {
+            for (int came = 0; came <= 5; came++) {
+                int last = came + left + 1;
+                due(x.saidAt(10 * came + left, 0, last), came == 2 ? 0 : NOT);
+                due(x.saidAt(10 * came + left, 0, last + 1), NOT);
+            }
+        }
     }
 
     static void saidAtTheKth() {
@@ -130,6 +159,46 @@ final class SaidBoundaries extends Sentences {
         }
     }
 
+    private static void firstOne(String law, int[] came, int[] left, int... first) {
+        TalkStrainer x = sizes(4, law);
+        // a longer one was asked for before
+        layAll(x, 0, 6, 1);
+        layAll(x, 1, 6, 0);
+        x.said(1, -1);
+        x.said(1, 0);
+        x.saidAt(1, 0, 0);
+        lay(x, 0, came);
+        lay(x, 1, left);
+        for (int k = 0; k < first.length; k++) {
+            due(x.saidAt(1, 0, k), first[k]);
+        }
+        due(x.saidAt(1, 0, first.length), NOT);
+    }
+
+    static void saidAtGoesNoWayThatEnds() {
+        sentence(20, "those that CAME in their order, those LEFT in theirs");
+        int[] one = {1};
+        int[] two = {2};
+        int[] none = {0};
+        // the lesser one could come, but just behind the other one that is left
+        firstOne("s=0&p", none, one, 1, 0);
+        firstOne("s=0&l", none, one, 1, 0);
+        // the lesser one could be left, but just behind the other one that comes
+        firstOne("s|!p", one, none, 1, 0);
+        firstOne("s&p<2", new int[] {1, 2}, new int[] {3, 0}, 1, 2, 3, 0);
+        // the lesser one could be first, but then the other one can't be second
+        firstOne("s=1&!l", one, none, 1, 0);
+        firstOne("s=1|s=2&!p", two, none, 2, 0);
+        firstOne("s=0|s=1&p", new int[] {0, 1}, new int[] {3}, 0, 1, 3);
+        firstOne("s=0|s=3&l<1", new int[] {3, 0}, new int[] {1}, 3, 0, 1);
+        firstOne("s=1|s=2&l", new int[] {1, 2}, new int[] {3, 3}, 1, 3, 2, 3);
+        firstOne("s=1&l|s=0&!p", new int[] {0, 1}, new int[] {3}, 0, 3, 1);
+        // either is first, of unlike ones the lesser one
+        firstOne("s=1", one, two, 1, 2);
+        firstOne("s=2", two, one, 1, 2);
+        firstOne("s=2", two, none, 0, 2);
+    }
+
     // ---- 21: alone
 
     static void aloneOnAShelf() {
@@ -178,6 +247,17 @@ final class SaidBoundaries extends Sentences {
         due(x.alone(0, 0, 1), 12);
         x.row(0, 0, 12);
         due(x.alone(0, 0, 1), 0);
+        // the first two come, any behind them are left
+        tell(x, "p<2");
+        x.row(0, 0, 2);
+        due(x.alone(0, 0, 0), 1);
+        due(x.alone(0, 0, 3), 12 * 12 * 12);
+        due(x.alone(0, 0, 4), 12 * 12 * 12 * 12);
+        // the first two are left, what is behind them comes
+        tell(x, "l>1");
+        due(x.alone(0, 0, 2), 12 * 12);
+        due(x.alone(0, 0, 1), 0);
+        due(x.alone(0, 0, 3), 0);
         tell(x, "0");
         x.row(0, 0, 0);
         due(x.alone(0, 0, 4), 12 * 12 * 12 * 12);
@@ -194,6 +274,17 @@ final class SaidBoundaries extends Sentences {
         lay(x, 1, 2);
         due(x.howFine(1, 0), 10);
         due(x.howFine(10, 0), 0);
+        // on SHELF n a ROW of n + 1 words; so many come as the mesh is fine
+        tell(x, "p<f");
+        for (int shelf = 0; shelf <= 5; shelf++) {
+            x.row(shelf, 0, shelf + 1);
+        }
+        for (int saying = 0; saying <= 5; saying++) {
+            for (int came = 0; came <= 5; came++) {
+                due(x.howFine(10 * saying + came, 0), came < saying ? 1 : came == saying ? 9 - came : 0);
+                due(x.howFine(10 * saying + came, 1), came <= saying ? came + 1 : NOT);
+            }
+        }
     }
 
     static void howFineWhat() {
@@ -241,6 +332,46 @@ final class SaidBoundaries extends Sentences {
         due(x.howFine(1, 1), 0);
         lay(x, 1, 1, 1);
         due(x.howFine(1, 0), 0);
+        // twelve of twelve, and eleven of them
+        x.row(0, 0, 12);
+        x.row(1, 0, 12);
+        tell(x, "p<12");
+        due(x.howFine(1, 0), 10);
+        tell(x, "p<11");
+        due(x.howFine(1, 0), 0);
+        x.row(1, 0, 11);
+        due(x.howFine(1, 0), 10);
+        x.row(0, 0, 13);
+        x.row(1, 0, 13);
+        tell(x, "1");
+        due(x.howFine(1, 0), 10);
+    }
+
+    static void whatWasSaidFindsNothingLeft() {
+        sentence(19, "in thought each MESH is empty at first.");
+        TalkStrainer x = passesIfNothingIsLeft();
+        lay(x, 1);
+        due(x.said(1, 0), 1);
+        sentence(20, "in thought each MESH is empty at first.");
+        due(x.saidAt(1, 0, 1), 1);
+        sentence(21, "in thought each MESH is empty at first.");
+        due(x.alone(0, 0, 0), 1);
+        due(x.alone(0, 0, 1), 0);
+        sentence(22, "in thought each MESH is empty at first.");
+        due(x.howFine(0, 0), 10);
+        due(x.howFine(1, 0), 0);
+        sentence(24, "in thought each MESH is empty at first.");
+        due(x.meant(0, 0, 0), NOT);
+        due(x.meant(0, 0, 1), 0);
+        sentence(25, "in thought each MESH is empty at first.");
+        due(x.likely(0, 0, 0, 0), 0);
+        due(x.likely(0, 0, 0, 1), 1);
+        sentence(26, "two speak by turns through an empty MESH");
+        due(x.game(0, 0), 0);
+        x.word(0, 0);
+        due(x.game(0, 0), 1);
+        sentence(27, "empty as an evening begins");
+        due(x.drawn(1, 3020, 0, 0), 0);
     }
 
     // ---- 23: between
@@ -303,6 +434,28 @@ final class SaidBoundaries extends Sentences {
         lay(x, 0, 2, 0, 0);
         due(x.between(0, 0, 3), 4095);
         due(x.between(0, 0, 2), 1 + 2 + 1024 + 2048);
+    }
+
+    static void betweenFindsWhatIsLeftAheadOfIt() {
+        sentence(23, "in thought each MESH is empty at first.");
+        // 0 passes as long as nothing is left, 1 always, 2 if something is left, 3 never
+        TalkStrainer x = sizes(4, "s=0&!l|s=1|s=2&l");
+        lay(x, 1, 3, 3);
+        x.speak(1, 0);
+        lay(x, 0, 0);
+        due(x.between(0, 0, 0), 0);
+        due(x.between(0, 0, 1), 4 + 8);
+        // what is left behind it is not left yet
+        lay(x, 0, 0, 3);
+        due(x.between(0, 0, 1), 4 + 8);
+        due(x.between(0, 0, 2), 1 + 8);
+        lay(x, 0, 3, 1);
+        due(x.between(0, 0, 0), 4 + 8);
+        due(x.between(0, 0, 1), 1 + 8);
+        due(x.between(0, 0, 2), 1 + 8);
+        lay(x, 0, 0, 1, 0);
+        due(x.between(0, 0, 2), 0);
+        due(x.between(0, 0, 3), 4 + 8);
     }
 
     static void betweenTwelveWords() {

@@ -156,6 +156,34 @@ final class SayingBoundaries extends Sentences {
         due(x.of(0, 8), 2);
     }
 
+    static void theFirstWordFindsNothingLeft() {
+        sentence(11, "in thought each MESH is empty at first.");
+        TalkStrainer x = passesIfNothingIsLeft();
+        due(x.of(0, 8), 2);
+        due(x.through(0, 0, 0), 2);
+        due(x.through(0, 0, 1), 0);
+        due(x.speak(0, 0), 0);
+        sentence(12, "in thought each MESH is empty at first.");
+        due(x.nth(0, 0, 1, 0), 1);
+        due(x.nth(0, 0, 0, 1), NOT);
+        sentence(13, "in thought each MESH is empty at first.");
+        due(x.several(0, 0), 2);
+        due(x.several(0, 1), 0);
+        sentence(15, "in thought each MESH is empty at first.");
+        due(x.finest(0), 9);
+        sentence(16, "in thought each MESH is empty at first.");
+        due(x.keeps(0), 1);
+        sentence(17, "in thought each MESH is empty at first.");
+        x.mesh(1);
+        tell(x, "f?1;!l");
+        due(x.leastLost(0), 0);
+        x.mend(0, 5, 1);
+        x.mend(1, 5, 0);
+        due(x.leastLost(0), 0);
+        tell(x, "f?0;!l");
+        due(x.leastLost(0), 1);
+    }
+
     /** A word of each sort, as number. */
     private static TalkStrainer sorts() {
         TalkStrainer x = new TalkStrainer();
@@ -334,6 +362,16 @@ final class SayingBoundaries extends Sentences {
         lay(x, 1);
         due(x.several(1, 0), 3);
         due(x.several(10, 0), 0);
+        // on SHELF n a ROW of n + 1 bytes 0; each mesh keeps the first word
+        tell(x, "p");
+        for (int shelf = 0; shelf <= 5; shelf++) {
+            x.row(shelf, 0, shelf + 1);
+        }
+        for (int saying = 0; saying <= 5; saying++) {
+            for (int meshes = 0; meshes <= 5; meshes++) {
+                due(x.several(10 * saying + meshes, 0), Math.max(0, saying - meshes));
+            }
+        }
     }
 
     static void severalWhat() {
@@ -533,6 +571,38 @@ final class SayingBoundaries extends Sentences {
         due(x.say(0, 0, -1), 4);
     }
 
+    static void sayWantsANameAndADeed() {
+        sentence(14, "that makes SENSE as it is said");
+        // all is left, so that any two words that make sense do; but one sort is missing
+        for (int missing = 0; missing <= 2; missing++) {
+            TalkStrainer x = new TalkStrainer();
+            x.mesh(0);
+            tell(x, "p>1");
+            for (int n = 0; n < 12; n++) {
+                int sort = n % 3;
+                word(x, 0, 0, 0, sort == missing ? (missing + 1) % 3 : sort, 0);
+            }
+            lay(x, 0);
+            due(x.say(0, 0, -1), missing == 2 ? 2 : NOT);
+            due(x.say(0, 0, 0), missing == 2 ? 0 : NOT);
+            lay(x, 0, 2);
+            due(x.say(0, 0, -1), NOT);
+            x.mend(11, 3, missing);
+            lay(x, 0, missing == 2 ? 11 : missing == 1 ? 5 : 2);
+            due(x.say(0, 0, -1), 3);
+            due(x.say(0, 0, missing), 11);
+        }
+        TalkStrainer y = new TalkStrainer();
+        y.mesh(0);
+        tell(y, "0");
+        word(y, 0, 0, 0, 1, 0);
+        lay(y, 0);
+        due(y.say(0, 0, -1), NOT);
+        word(y, 0, 0, 0, 0, 0);
+        due(y.say(0, 0, -1), 2);
+        due(y.say(0, 0, 0), 1);
+    }
+
     static void sayCountsWhatIsLeft() {
         sentence(14, "through a MESH, of which just a told ROW of WORDS (a SAYING) comes: how many WORDS");
         TalkStrainer x = sorts();
@@ -547,6 +617,16 @@ final class SayingBoundaries extends Sentences {
         tell(x, "l>1");
         lay(x, 0, 2, 2, 2);
         due(x.say(0, 0, -1), 5);
+        // two are left, and what comes then is not
+        tell(x, "l=2");
+        due(x.say(0, 0, -1), 5);
+        lay(x, 0, 2, 2);
+        due(x.say(0, 0, -1), 4);
+        tell(x, "!p|l=2");
+        lay(x, 0, 0, 2, 2);
+        due(x.say(0, 0, -1), 5);
+        due(x.say(0, 0, 2), 2);
+        tell(x, "l>1");
         // the told saying ends with what is no word
         lay(x, 0, 2, 3, 2);
         due(x.say(0, 0, -1), 3);
@@ -665,8 +745,11 @@ final class SayingBoundaries extends Sentences {
         TalkStrainer x = new TalkStrainer();
         word(x, 9, 9, 0, 2, 0);
         lay(x, 0, 0);
+        lay(x, 1);
         due(x.leastLost(0), NOT);
+        due(x.leastLost(1), NOT);
         x.mesh(0);
+        due(x.leastLost(1), 0);
         due(x.leastLost(0), 0);
         x.mend(0, 7, 18);
         due(x.leastLost(0), 0);

@@ -118,6 +118,17 @@ abstract class Sentences {
         return x;
     }
 
+    /** Two WORDS lie in the MESH in deed, and by the law all passes, as long as nothing is left in it. */
+    static TalkStrainer passesIfNothingIsLeft() {
+        TalkStrainer x = sizes(2, "0");
+        x.mend(0, 1, 3);
+        x.mend(0, 2, 3);
+        lay(x, 0, 0, 1);
+        x.speak(0, 0);
+        tell(x, "!l");
+        return x;
+    }
+
     // ---- running
 
     /** Runs each method of a class that is not private and takes nothing: such ones are the tests. */

@@ -482,6 +482,9 @@ final class WordBoundaries extends Sentences {
         due(x.of(4, 9), 36);
         due(x.of(3, 8), 0);
         due(x.of(3, 9), 0);
+        x.speak(0, 0);
+        due(x.of(0, 8), 3);
+        due(x.of(0, 9), 18);
         due(x.of(5, 8), BAD);
         due(x.of(5, 9), BAD);
         due(x.of(-1, 8), BAD);
@@ -592,6 +595,11 @@ final class WordBoundaries extends Sentences {
         sentence(9, "LINE: E, or E ? E");
         good("1?1");
         good("1?1;1?1");
+        good("0|1?1|1");
+        good("0&1<2?1+1=2|0");
+        good("((((((1))))))?((((((1))))))");
+        fault("1?(((((((1", 8);
+        fault("(((((((1", 6);
         good("1;1?1;1");
         fault("1?", 2);
         fault("?1", 0);
@@ -917,6 +925,17 @@ final class WordBoundaries extends Sentences {
         worth("-2*1024*1024*1024%-1", "0");
     }
 
+    static void whichSignsBindCloser() {
+        sentence(10, "E = A { | A }. A = B { & B }. B = S, or S < S, S = S, S > S. S = P { + P, - P }. P = O { * O, / O, % O }.");
+        String[][] worths = {{"2+3*4", "14"}, {"2*3+4", "10"}, {"2-6/3", "0"}, {"7+7%4", "10"}, {"(2+3)*4", "20"}, {"7-4-3", "0"}, {"7-4+3", "6"},
+            {"8/2/2", "2"}, {"8/2*4", "16"}, {"9%5%3", "1"}, {"2*9%5", "3"}, {"-2-3", "-5"}, {"-2*3", "-6"}, {"1+1=2", "1"}, {"2=1+1", "1"},
+            {"3-1>1+1", "0"}, {"1<2&0", "0"}, {"0&1<2", "0"}, {"1|0&0", "1"}, {"(1|0)&0", "0"}, {"0&0|1", "1"}, {"0&(0|1)", "0"}, {"2=2|0", "1"},
+            {"2=(2|0)", "0"}, {"!1+1", "1"}, {"!(1+1)", "0"}, {"!0*5", "5"}};
+        for (String[] one : worths) {
+            worth(one[0], one[1]);
+        }
+    }
+
     static void signsGive1Or0() {
         sentence(10, "| & < = > ! give 1, 0");
         String[][] ones = {{"2|0", "1"}, {"0|2", "1"}, {"2|2", "1"}, {"0|0", "0"}, {"-1|0", "1"}, {"2&3", "1"}, {"2&0", "0"}, {"0&2", "0"},
@@ -962,6 +981,9 @@ final class WordBoundaries extends Sentences {
         due(passes("1?0"), 0);
         due(passes("1?-1"), 0);
         due(passes("0-1?1"), 1);
+        due(passes("0|1?0|1"), 1);
+        due(passes("1?0&1|1"), 1);
+        due(passes("1?1|1&0"), 1);
     }
 
     static void whichLineCounts() {
