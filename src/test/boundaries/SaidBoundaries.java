@@ -93,15 +93,17 @@ final class SaidBoundaries extends Sentences {
         sentence(20, "BAD, -11, -12; NOT.");
         SayingBoundaries.twoShelves(BAD, NOTHING_THERE, OTHER_KIND, (x, cl) -> x.saidAt(cl, 0, 0));
         SayingBoundaries.meshOrNone(BAD, (x, mesh) -> x.saidAt(0, mesh, 0));
-        TalkStrainer x = sizes(4, "p<3");
-        for (int shelf = 0; shelf <= 5; shelf++) {
-            x.row(shelf, 0, shelf + 1);
-        }
-        for (int left = 0; left <= 5; left++) {
-            for (int came = 0; came <= 5; came++) {
-                int last = came + left + 1;
-                due(x.saidAt(10 * came + left, 0, last), came == 2 ? 0 : NOT);
-                due(x.saidAt(10 * came + left, 0, last + 1), NOT);
+        for (int many = 1; many <= 5; many += 2) {
+            TalkStrainer x = sizes(4, "p<" + many);
+            for (int shelf = 0; shelf <= 5; shelf++) {
+                x.row(shelf, 0, shelf + 1);
+            }
+            for (int left = 0; left <= 5; left++) {
+                for (int came = 0; came <= 5; came++) {
+                    int last = came + left + 1;
+                    due(x.saidAt(10 * came + left, 0, last), came + 1 == many ? 0 : NOT);
+                    due(x.saidAt(10 * came + left, 0, last + 1), NOT);
+                }
             }
         }
     }

@@ -626,9 +626,16 @@ final class SayingBoundaries extends Sentences {
         lay(x, 0, 0, 2, 2);
         due(x.say(0, 0, -1), 5);
         due(x.say(0, 0, 2), 2);
+        word(x, 0, 0, 0, 2, 0);
+        lay(x, 0, 0, 3, 2);
+        int[] due = {0, 1, 2, 3, 2};
+        for (int k = 0; k < 5; k++) {
+            due(x.say(0, 0, k), due[k]);
+        }
+        x.mend(3, 3, 0);
         tell(x, "l>1");
         // the told saying ends with what is no word
-        lay(x, 0, 2, 3, 2);
+        lay(x, 0, 2, 4, 2);
         due(x.say(0, 0, -1), 3);
         // what lies in the mesh in deed is not there in thought
         lay(x, 1, 0, 0);
