@@ -1680,8 +1680,11 @@ public final class TalkStrainer {
                 return 0;
             }
             int body = bodyFrom(act, from);
-            int deeper = depth + 1;
             noteBody(body);
+            return answerOf(body, x, depth + 1);
+        }
+
+        private int answerOf(int body, int x, int deeper) {
             switch (body) {
                 case 1: return x + number;
                 case 2: return run(STAYS, kind, x, deeper) - run(HURTS, kind, 1, deeper);
